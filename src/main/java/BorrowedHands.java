@@ -2,6 +2,7 @@
 public final class BorrowedHands {
     public static final int NONE = -1;
 
+    /* Refusals beside NONE; the document gives each number more than one sense, so the names are wide. */
     private static final int ABSENT = -2;
     private static final int UNFIT = -3;
     private static final int STRUCK = -4;
@@ -767,12 +768,12 @@ public final class BorrowedHands {
 
         static int changeRow(int kind, int a, int b, int row) {
             switch (kind) {
-                case FLIP: return row ^ 1 << a;
-                case SET: return row | 1 << a;
+                case FLIP: return row ^ (1 << a);
+                case SET: return row | (1 << a);
                 case CLEAR: return row & ~(1 << a);
-                case TURN: return (row << a | row >>> SIGNS - a) & FULL_ROW;
-                case SWAP: return ((row >> a ^ row >> b) & 1) == 0 ? row : row ^ (1 << a | 1 << b);
-                case COPY: return row & ~(1 << b) | (row >> a & 1) << b;
+                case TURN: return ((row << a) | (row >>> (SIGNS - a))) & FULL_ROW;
+                case SWAP: return ((row >> a ^ row >> b) & 1) == 0 ? row : row ^ ((1 << a) | (1 << b));
+                case COPY: return (row & ~(1 << b)) | ((row >> a & 1) << b);
                 default: return row;
             }
         }

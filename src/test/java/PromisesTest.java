@@ -125,6 +125,12 @@ public final class PromisesTest {
         fault("writer  ", 8, 1);
         fault("writer x", 7, 1);
         fault("writerplain", 0, 1);
+        fault("writerz 5 plain", 0, 1);
+        fault("writera 5 plain", 0, 1);
+        fault("writer{5 plain", 6, 1);
+        fault("writer`5 plain", 6, 1);
+        fault("writer 5/plain", 8, 1);
+        fault("writer 5:plain", 8, 1);
         fault("writer -1 plain", 7, 1);
         fault("writer 100 plain", 7, 2);
         fault("writer 99999999999999999999 plain", 7, 2);
@@ -168,6 +174,19 @@ public final class PromisesTest {
         fault(many("book 1", 4) + ";bool 1", 28, 1);
         fault(many("writer 0 plain", 12) + "; writer", 181, 3);
         fault(many("writer 0 plain", 12) + ";books", 180, 1);
+        String[] wrongAgain = {";x", ";writer 100 plain", " x", ";book 65536", ""};
+        for (String more : wrongAgain) {
+            fault("writer 100 plain" + more, 7, 2);
+            fault("writer 5 odd" + more, 9, 1);
+            fault("writer 5 flip 16" + more, 14, 2);
+            fault("writer 5 swap 1 1" + more, 16, 2);
+            fault("writer 5 plain under 0" + more, 21, 2);
+            fault("writer 5 plain;writer 5 plain under 0" + more, 36, 4);
+            fault("book 65536" + more, 5, 2);
+            fault("book 1 2 3 4 5 6 7 8 9" + more, 21, 3);
+            fault(many("book 1", 5) + more, 28, 3);
+            fault("x" + more, 0, 1);
+        }
     }
 
     private static void promise5() {
@@ -718,6 +737,13 @@ public final class PromisesTest {
         Due.is("31 as if not dead", x.breaks(2, 0, 0), 3);
         x.die(1);
         Due.is("31 others as they are", x.breaks(2, 0, 0), -2);
+        BorrowedHands y = Due.town("writer 1 plain;writer 9 turn 1;book 0");
+        y.die(0);
+        y.see(65535);
+        Due.is("31 none is no line", y.breaks(1, 0, 0), -2);
+        y.forget();
+        y.see(65533);
+        Due.is("31 none is no line", y.breaks(1, 0, 0), -2);
     }
 
     private static void promise32() {
@@ -805,6 +831,9 @@ public final class PromisesTest {
         Due.is("34 by writers", z.slips(1, 0, 0, 1, 1), 0);
         z.hire(0, 2);
         Due.is("34 by writers", z.slips(0, 0, 0, 1, 1), 0);
+        BorrowedHands v = Due.town("writer 1 plain;writer 2 set 0 under 0;book 0");
+        Due.is("34 what is set above can't come from below", v.slips(1, 0, 0, 2, 0), 2);
+        Due.is("34 what is set above can't come from below", v.slips(1, 0, 0, 2, 1), 1);
     }
 
     private static void promise35() {
