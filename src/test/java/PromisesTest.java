@@ -19,7 +19,7 @@ public final class PromisesTest {
         promise16(); promise17And18(); promise19(); promise20(); promise21(); habits(); promise22(); promise23();
         promise24(); promise25(); promise26(); promise27(); promise28(); promise29(); promise30(); promise31();
         promise32(); promise33(); promise34(); promise35(); promise36(); promise37(); promise38(); promise39();
-        promise40(); promise41(); refusals();
+        promise40(); promise41(); refusals(); fullTown(); fullTape();
         Due.finish("PromisesTest");
     }
 
@@ -957,6 +957,59 @@ public final class PromisesTest {
         Due.is("41 wrong", x.count(-1), NONE);
         Due.is("41 wrong", x.count(MIN), NONE);
         Due.is("41 wrong", x.count(MAX), NONE);
+    }
+
+    /* Twelve writers, four books of eight pages, sixteen seen: the ends of all rows. */
+    private static void fullTown() {
+        StringBuilder text = new StringBuilder(many("writer 0 plain", 11) + ";writer 9 flip 15");
+        for (int b = 0; b < 4; b++) {
+            text.append(";book");
+            for (int p = 0; p < 8; p++) {
+                text.append(' ').append(100 * b + p);
+            }
+        }
+        BorrowedHands x = Due.town(text.toString());
+        Due.is("full pages", x.count(2), 32);
+        Due.is("full fits", x.fits(307, 10), 32 * 10 + 31);
+        Due.is("full fits", x.fits(32768 + 307, 0), 32 * 11 + 31);
+        Due.is("full likeliest", x.likeliest(32768 + 307, 0), 32 * 11 + 31);
+        Due.is("full matches", x.matches(11, 32768 + 307), 1L << 31);
+        Due.is("full tells", x.tells(3, 3 << 10, 1), 1);
+        Due.is("full tells", x.tells(3, 3 << 9, 0), -2);
+        Due.is("full hire", x.hire(11, 10), 2);
+        for (int i = 0; i < 16; i++) {
+            x.see(32768 + 300 + i % 8);
+        }
+        Due.is("full breaks", x.breaks(11, 3, 0), 0);
+        Due.is("full between", x.between(11, 3, 0), 4096 + 2047);
+        Due.is("full untangle", x.untangle(11, 10, 3, 16), 1);
+        Due.is("full store", x.store(11, 3), 8);
+        Due.is("full store", x.store(0, 1), 8);
+        x.teach(0, 1, 0, 0);
+        Due.is("full store", x.store(0, 0), 8);
+        x.die(0);
+        x.die(11);
+        Due.is("full stock", x.line(11, 3, 7), 32768 + 307);
+        Due.is("full stock of one book", x.line(0, 0, 7), 6);
+        Due.is("full stock of the next", x.line(0, 1, 0), 100);
+        Due.is("full set", x.served(4095, 99), 0);
+        Due.is("full errors", x.errors(3, 7, 15), 2048);
+    }
+
+    private static void fullTape() {
+        String blanks = " ".repeat(400);
+        String[] texts = {"", "book 7", "book", "writer 5 plain", "writer 5 plain under", "book 1;"};
+        int[] due = {0, 0, -2 - 3201, 1, -2 - 3201, -2 - 3201};
+        for (int i = 0; i < texts.length; i++) {
+            BorrowedHands x = new BorrowedHands();
+            Due.is("full tape " + texts[i], Due.tell(x, (texts[i] + blanks).substring(0, 400)), due[i]);
+        }
+        String[] ends = {"book 12", "writer 5 plain", "writer 5 flip", "writer 5 set 1"};
+        int[] endsDue = {0, 1, -2 - 3201, 1};
+        for (int i = 0; i < ends.length; i++) {
+            BorrowedHands x = new BorrowedHands();
+            Due.is("full tape, end " + ends[i], Due.tell(x, blanks.substring(ends[i].length()) + ends[i]), endsDue[i]);
+        }
     }
 
     /* What is refused is no act: it can't be undone and leaves the last acts as they are. */
