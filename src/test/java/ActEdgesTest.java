@@ -237,6 +237,14 @@ public final class ActEdgesTest {
         Edge.is("he keeps all that comes", x.writer(0, 7), 100);
     }
 
+    /* The document makes no exception for the dead, here and in the two promises that follow. */
+    private static void promise8TheDeadToo() {
+        BorrowedHands x = Edge.made(NO_LINES);
+        Edge.is("praise", x.praise(0, 7), 7);
+        Edge.is("one over him", x.praise(1, 20), 18);
+        Edge.is("fame", x.writer(0, 7), 9);
+    }
+
     private static void promise8WithoutThese() {
         for (Edge.Story story : WITH_A_DEAD) {
             Edge.refusedEach("n", story, Edge.outside(1, 9999), n -> x -> x.praise(2, n), NONE);
@@ -253,6 +261,10 @@ public final class ActEdgesTest {
         Edge.is("it stays with him", x.count(5), -10000);
         Edge.is("fame goes from above 0 to below", x.praise(0, 5), 5);
         Edge.is("below", x.blame(0, 6), -1);
+    }
+
+    private static void promise9TheDeadToo() {
+        Edge.is("blame", Edge.made(NO_LINES).blame(0, 9), -9);
     }
 
     private static void promise9WithoutThese() {
@@ -296,6 +308,12 @@ public final class ActEdgesTest {
         Edge.is("coins", x.writer(0, 8), 1);
     }
 
+    private static void promise10TheDeadToo() {
+        BorrowedHands x = Edge.made(NO_LINES);
+        Edge.is("order", x.order(1, 9), 4);
+        Edge.is("coins", x.writer(0, 8), 4);
+    }
+
     private static void promise10WithoutThese() {
         for (Edge.Story story : WITH_A_DEAD) {
             Edge.refusedEach("n", story, Edge.outside(1, 9999), n -> x -> x.order(2, n), NONE);
@@ -303,15 +321,6 @@ public final class ActEdgesTest {
         }
         Edge.refusedEach("writer", CHAIN, Edge.outside(0, 11), n -> x -> x.order(n, 50), NONE);
         Edge.refused("no town", Towns.NOTHING, x -> x.order(0, 1), NONE);
-    }
-
-    /* The dead have fame and coins as others: the document makes no exception for them. */
-    private static void promise10TheDeadAreGivenToo() {
-        BorrowedHands x = Edge.made(NO_LINES);
-        Edge.is("praise", x.praise(0, 7), 7);
-        Edge.is("blame", x.blame(0, 9), -2);
-        Edge.is("order", x.order(1, 9), 4);
-        Edge.is("coins", x.writer(0, 8), 4);
     }
 
     /* Who is in a mood, if twelve draw, in numbers that do not wrap by themselves. */
@@ -414,6 +423,7 @@ public final class ActEdgesTest {
 
     private static void promise13HowManyHaveNoLine() {
         Edge.is("without books", Edge.made(CHAIN).die(0), 0);
+        Edge.is("one book of one page", Edge.made(Towns.of("writer 1 plain;book 1")).die(0), 1);
         BorrowedHands x = Edge.made(Towns.of(Towns.FULL));
         for (int w = 1; w < 12; w++) {
             x.hire(w, w - 1);

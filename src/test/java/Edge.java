@@ -1,6 +1,7 @@
 import java.lang.reflect.InvocationTargetException;
 import java.lang.reflect.Method;
 import java.util.ArrayList;
+import java.util.Collections;
 import java.util.Comparator;
 import java.util.IdentityHashMap;
 import java.util.List;
@@ -13,7 +14,7 @@ import java.util.regex.Pattern;
 /**
  * What the tests of edges share. A method named promise5.. is a test of one sentence of promise 5, or of
  * the terms it leans on; a refused call is made on one object and not on another, and both must answer
- * alike ever after.
+ * what Look asks alike.
  */
 final class Edge {
     static final int NONE = BorrowedHands.NONE;
@@ -75,7 +76,7 @@ final class Edge {
         return x;
     }
 
-    /** The answer is as due, and all that is asked behind it is answered as if it had not been made. */
+    /** The answer is as due, and what Look asks behind it is answered as if it had not been made. */
     static void refused(String call, Story story, Call made, long due) {
         is(call, made.on(made(story)), due);
         alike(call + ", what other calls answer behind it", story, story.and(made));
@@ -87,7 +88,7 @@ final class Edge {
         }
     }
 
-    /** All that is asked behind two stories is answered alike. */
+    /** What Look asks behind two stories is answered alike. */
     static void alike(String what, Story one, Story other) {
         String due = LOOKS.computeIfAbsent(one, Look::at);
         String got = Look.at(other);
@@ -131,7 +132,7 @@ final class Edge {
     }
 
     static String many(String part, int times) {
-        return String.join(";", java.util.Collections.nCopies(times, part));
+        return String.join(";", Collections.nCopies(times, part));
     }
 
     /** Calls on a new object. */

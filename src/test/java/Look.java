@@ -1,4 +1,4 @@
-/** All that can be asked behind a story: as it is, with acts undone, from the shelves, by the tape. */
+/** Questions behind a story, of each kind but not with all arguments: as it is, undone, from the shelves, by the tape. */
 final class Look {
     /* A story and the questions on one object stay below the 512 calls of the document. */
     private static final int MOST_ASKED = 250;
@@ -25,6 +25,7 @@ final class Look {
         now.lines();
         now.seen();
         now.compared();
+        now.stock();
         all.append("now ").append(now.heard);
         int acts = Edge.made(story).count(10);
         Edge.Story undone = story;
@@ -45,6 +46,7 @@ final class Look {
         Look look = new Look(story);
         look.state();
         look.seen();
+        look.stock();
         return answer + ": " + look.heard;
     }
 
@@ -88,6 +90,21 @@ final class Look {
                     int w = i;
                     ask(y -> y.line(w, book, page));
                 }
+            }
+        }
+    }
+
+    /* What stock holds is seen when its writers are dead. */
+    private void stock() {
+        heard.append("stock ");
+        BorrowedHands y = Edge.made(story);
+        for (int w = 0; w < writers; w++) {
+            y.die(w);
+        }
+        for (int b = 0; b < books; b++) {
+            int pages = pages(b);
+            for (int i = 0; i < pages * writers; i++) {
+                heard.append(y.line(i % writers, b, i / writers)).append(' ');
             }
         }
     }

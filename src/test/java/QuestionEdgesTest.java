@@ -95,6 +95,22 @@ public final class QuestionEdgesTest {
         Edge.is("lowest", x.writer(11, 6), 0);
         Edge.is("over the highest", x.writer(11, 12), 0);
         Edge.is("over the lowest, at once", x.writer(0, 12), 2);
+        x.sack(6);
+        Edge.is("the lowest of two rows", x.writer(11, 6), 6);
+        Edge.is("the lowest of two rows", x.writer(5, 6), 0);
+    }
+
+    private static void promise19WhetherInAMoodWhetherDead() {
+        BorrowedHands x = Edge.made(FULL);
+        Edge.is("no mood", x.writer(0, 9), 0);
+        Edge.is("not dead", x.writer(0, 10), 0);
+        x.day(0);
+        x.die(0);
+        x.die(11);
+        Edge.is("mood", x.writer(0, 9), 1);
+        Edge.is("dead", x.writer(0, 10), 1);
+        Edge.is("the last dead", x.writer(11, 10), 1);
+        Edge.is("another one is not", x.writer(10, 10), 0);
     }
 
     private static void promise19StockOfNoneAndOfAllBooks() {
@@ -260,6 +276,29 @@ public final class QuestionEdgesTest {
         Edge.is("like: it comes from the other all the same", y.trace(1, 0, 0, 15, 0), 0);
         Edge.is("unlike: by him", y.trace(2, 0, 0, 1, 1), 2);
         Edge.is("who changed the other does not come with it", y.trace(2, 0, 0, 15, 1), 0);
+    }
+
+    private static void promise22TurnGoesRoundFromTheEnd() {
+        for (int up : new int[] {1, 7, 15}) {
+            BorrowedHands x = Edge.made(Towns.of("writer 1 flip 0;writer 2 turn " + up + " under 0;book 0"));
+            for (int k = 0; k < 16; k++) {
+                Edge.is("turn " + up + " sign " + k, x.trace(1, 0, 0, k, 0), (k + 16 - up) % 16);
+                Edge.is("turn " + up + " sign " + k + " by", x.trace(1, 0, 0, k, 1), k == up ? 0 : NONE);
+            }
+            BorrowedHands y = Edge.made(Towns.of("writer 0 plain;writer 1 flip 5 under 0;writer 2 swap 0 5 under 1;"
+                + "writer 3 turn " + up + " under 2;book 0"));
+            Edge.is("a sign that was elsewhere", y.trace(3, 0, 0, up, 0), 5);
+            Edge.is("who changed it", y.trace(3, 0, 0, up, 1), 1);
+        }
+    }
+
+    private static void promise22InAMoodHeChangesNone() {
+        BorrowedHands x = Edge.made(Towns.of("writer 1 set 0;writer 2 flip 1 under 0;book 0"));
+        x.day(0);
+        Edge.is("moods", x.count(7), 1);
+        Edge.is("it comes from the page", x.trace(0, 0, 0, 0, 0), 0);
+        Edge.is("nobody changed it", x.trace(1, 0, 0, 0, 1), NONE);
+        Edge.is("one in no mood", x.trace(1, 0, 0, 1, 1), 1);
     }
 
     private static void promise22TurnAndSwapBringSignsElsewhere() {

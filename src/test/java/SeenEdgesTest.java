@@ -176,6 +176,15 @@ public final class SeenEdgesTest {
         Edge.is("the first", x.breaks(2, 0, 1), 2);
     }
 
+    private static void promise31TheSameTillABreak() {
+        Edge.Story story = Towns.of("writer 1 flip 0;writer 2 set 0;writer 9 plain;book 0 1 1");
+        BorrowedHands x = Edge.made(seeing(story, 1, 0, 1));
+        Edge.is("one of two, then he, then the other", x.breaks(2, 0, 0), 1);
+        Edge.is("ahead of the other", x.breaks(2, 0, 1), 2);
+        Edge.is("the first stretch is his alone", x.between(2, 0, 0), 1);
+        Edge.is("the second", x.between(2, 0, 1), NOBODY + 2);
+    }
+
     private static void promise31FromTheLastPageOnRound() {
         Edge.Story story = Towns.of("writer 0 plain;writer 9 flip 15;book 1 2 3;book 7");
         int[] lines = times(16, 32769, 32770, 32771);
@@ -414,6 +423,48 @@ public final class SeenEdgesTest {
         Edge.is("the lower: none", x.slips(0, 0, 0, 0, 1), -2);
     }
 
+    /* Each of his hands is taught each habit, and his line is looked at. */
+    private static void promise34AllHabitsOfAllHands() {
+        String[] towns = {"writer 1 plain;writer 2 set 3 under 0;writer 3 turn 1 under 1;writer 4 copy 0 5 under 2;book 9 0",
+            "writer 1 swap 0 1;writer 2 clear 0 under 0;writer 3 flip 15 under 1;book 3 65535",
+            "writer 1 turn 15;writer 2 copy 15 0 under 0;writer 3 set 0 under 1;writer 4 turn 8 under 2;book 32769 1"};
+        for (String text : towns) {
+            BorrowedHands x = Edge.made(Towns.of(text));
+            int top = x.count(0) - 1;
+            for (int page = 0; page < 2; page++) {
+                for (int flipped = 0; flipped < 3; flipped++) {
+                    slipsByTrying(text, top, page, x.line(top, 0, page) ^ flipped * 16385 & 65535);
+                }
+            }
+        }
+    }
+
+    private static void slipsByTrying(String text, int top, int page, int line) {
+        int[] first = {-2, -2, -2, -2};
+        int many = 0;
+        for (int w = 0; w <= top; w++) {
+            for (int habit = 0; habit < 7 * 256; habit++) {
+                BorrowedHands y = Edge.made(Towns.of(text));
+                int kind = habit / 256;
+                int a = habit / 16 % 16;
+                int b = habit % 16;
+                boolean twice = kind == 0 && habit > 0 || kind < 5 && b > 0;
+                if (twice || y.teach(w, kind, a, b) < 0 || y.line(top, 0, page) != line) {
+                    continue;
+                }
+                if (many == 0) {
+                    first = new int[] {w, kind, y.writer(w, 2), y.writer(w, 3)};
+                }
+                many++;
+            }
+        }
+        BorrowedHands x = Edge.made(Towns.of(text));
+        Edge.is(text + " " + line, x.slips(top, 0, page, line, 0), many);
+        for (int what = 1; what <= 4; what++) {
+            Edge.is(text + " " + line + " " + what, x.slips(top, 0, page, line, what), first[what - 1]);
+        }
+    }
+
     private static void promise34LinesOf0To65535() {
         BorrowedHands x = Edge.made(Towns.of("writer 1 plain;book 65535 1"));
         Edge.is("65535", x.slips(0, 0, 0, 65535, 0), 16 + 15 + 240 + 240);
@@ -442,6 +493,11 @@ public final class SeenEdgesTest {
         Edge.is("all, of page 1", x.errors(0, 1, 15), 4095);
         Edge.is("nobody", x.errors(0, 0, 0), 0);
         Edge.is("no writers", Edge.made(Towns.of("book 1")).errors(0, 0, 0), 0);
+        BorrowedHands y = Edge.made(Towns.of("writer 1 set 0;writer 1 set 15;book 0 65535"));
+        for (int sign = 0; sign < 16; sign += 15) {
+            Edge.is("of page 0", y.errors(0, 0, sign), sign == 0 ? 1 : 2);
+            Edge.is("of page 1, behind it", y.errors(0, 1, sign), 0);
+        }
     }
 
     private static void promise36WithoutThese() {
@@ -477,11 +533,21 @@ public final class SeenEdgesTest {
     }
 
     private static void promise36ARowOfTwelve() {
-        StringBuilder text = new StringBuilder("writer 0 flip 0");
-        for (int w = 1; w < 12; w++) {
-            text.append(";writer ").append(w).append(" flip ").append(w).append(" under ").append(w - 1);
+        for (int firstSign : new int[] {0, 4, 11}) {
+            StringBuilder text = new StringBuilder("writer 0 flip " + firstSign);
+            for (int w = 1; w < 12; w++) {
+                int sign = firstSign == 11 ? 11 - w : firstSign + w;
+                text.append(";writer ").append(w).append(" flip ").append(sign).append(" under ").append(w - 1);
+            }
+            nested(text + ";book 0", 0, 12, 12);
         }
-        nested(text + ";book 0", 0, 12, 12);
+    }
+
+    private static void promise36ARowFromOneWriterOn() {
+        BorrowedHands x = Edge.made(Towns.of("writer 9 flip 1;writer 1 flip 0;book 0"));
+        x.hire(0, 1);
+        Edge.is("writer 0, then both", x.nested(0, 0, 3), 2);
+        Edge.is("unlike", x.nested(0, 0, 2), 2);
     }
 
     private static void promise37WithoutThese() {
@@ -525,8 +591,8 @@ public final class SeenEdgesTest {
     }
 
     private static void promise38OneHasNone() {
-        Edge.refused("the first", DEAD, x -> x.quarrel(0, 4, 0, 0), -2);
-        Edge.refused("the other", DEAD, x -> x.quarrel(4, 0, 0, 0), -2);
+        Edge.refused("the first", DEAD, x -> x.quarrel(0, 4, 0, 1), -2);
+        Edge.refused("the other", DEAD, x -> x.quarrel(4, 0, 0, 1), -2);
         Edge.refused("both", DEAD, x -> x.quarrel(0, 1, 0, 0), -2);
         Edge.refused("the same", DEAD, x -> x.quarrel(0, 0, 0, 0), -2);
     }
@@ -672,6 +738,11 @@ public final class SeenEdgesTest {
         x.keep(1);
         Due.write(x, " ".repeat(400));
         counts("all", x, 12, 4, 32, 1, 12, 9999, 9999, 4095, 4095, 16, 10, 400, 3, 12);
+    }
+
+    private static void promise41OfOneWriter() {
+        counts("one", Edge.made(Towns.of("writer 1 plain")), 1, 0, 0, 1, 1, 0, 0, 0, 0, 0, 0, 0, 0, 0);
+        counts("one", Edge.made(Towns.of("book 1")), 0, 1, 1, 0, 0, 0, 0, 0, 0, 0, 0, 0, 0, 0);
     }
 
     private static void promise41BitsOfNobodyUnder() {

@@ -148,6 +148,20 @@ public final class TapeEdgesTest {
         Edge.is("page", x.page(0, 0), 71);
     }
 
+    private static void promise3CutBytesAreNotRead() {
+        String[] texts = {"writer 5 plain", "writer 5 flip 1", "book 12", "book 1 2", "writer 5 plain ", "", " "};
+        String[] behind = {"under 0", "s", "0", " 7", ";", ";x", "x"};
+        for (String text : texts) {
+            for (String cut : behind) {
+                BorrowedHands x = new BorrowedHands();
+                Due.write(x, text + cut);
+                x.end(text.length());
+                Edge.is("\"" + text + "\" of \"" + text + cut + "\"", x.tell(), told(text));
+                Edge.is("page", x.page(0, 0), text.equals("book 12") ? 12 : text.equals("book 1 2") ? 1 : NONE);
+            }
+        }
+    }
+
     private static void promise4EmptyText() {
         BorrowedHands x = Edge.made(Towns.RICH);
         Edge.is("tell", x.tell(), 0);
@@ -167,6 +181,9 @@ public final class TapeEdgesTest {
         String blanks = " ".repeat(400);
         stands((Towns.FULL + blanks).substring(0, 400), 12);
         stands((blanks + Towns.FULL).substring(Towns.FULL.length()), 12);
+        for (String part : new String[] {"writer 5 plain", "writer 5 copy 0 15", "writer 5 plain;writer 6 plain under 0"}) {
+            stands((blanks + part).substring(part.length()), part.contains(";") ? 2 : 1);
+        }
         BorrowedHands x = new BorrowedHands();
         Due.tell(x, (blanks + "book 65535").substring(10));
         Edge.is("the last byte counts", x.page(0, 0), 65535);
@@ -427,6 +444,11 @@ public final class TapeEdgesTest {
         String[] later = {"", " x", ";", ";writer 100 plain", ";book 65536", ";book 1 2 3 4 5 6 7 8 9"};
         for (String more : later) {
             faultBehind("writer ", "100 plain" + more, 2);
+            faultBehind("writer ", "100 odd" + more, 2);
+            faultBehind("writer ", "100 flip 16" + more, 2);
+            faultBehind("writer ", "100 plain under 0" + more, 2);
+            faultBehind("writer 5 swap ", "16 16" + more, 2);
+            faultBehind("writer 5 ", "odd 16 under 9" + more, 1);
             faultBehind("writer 5 ", "odd" + more, 1);
             faultBehind("writer 5 turn ", "0" + more, 2);
             faultBehind("writer 5 plain under ", "3" + more, 2);
@@ -461,6 +483,14 @@ public final class TapeEdgesTest {
         fault("writers 5 plain", 0, 1);
         fault("write 5 plain", 0, 1);
         fault("boo 5", 0, 1);
+        fault("vriter 5 plain", 0, 1);
+        fault("writes 5 plain", 0, 1);
+        fault("look 5", 0, 1);
+        faultBehind("writer 5 ", "clip 3", 1);
+        faultBehind("writer 5 ", "get 3", 1);
+        faultBehind("writer 5 ", "burn 3", 1);
+        faultBehind("writer 5 ", "swat 3 4", 1);
+        faultBehind("writer 5 plain;writer 6 plain ", "ander 0", 1);
         faultBehind("writer 5 ", "plains", 1);
         faultBehind("writer 5 ", "plai", 1);
         faultBehind("writer 5 ", "under", 1);

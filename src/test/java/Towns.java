@@ -6,7 +6,7 @@ final class Towns {
     /* Purses 0 to 11, nobody under anybody. */
     static final String TWELVE = twelve();
     /* As many as a text of 400 bytes has room for: 12 writers, 4 books of 8 pages each. */
-    static final String FULL = TWELVE + many(";book 0 1 2 3 4 5 6 7", 3) + ";book 8 9 10 11 12 13 14 65535";
+    static final String FULL = TWELVE + ";book 0 1 2 3 4 5 6 7".repeat(3) + ";book 8 9 10 11 12 13 14 65535";
 
     static final Edge.Story NOTHING = x -> { };
     static final Edge.Story FEW = Towns::fewActs;
@@ -22,10 +22,6 @@ final class Towns {
 
     static Edge.Story of(String text) {
         return x -> Due.tell(x, text);
-    }
-
-    static String many(String part, int times) {
-        return part.repeat(times);
     }
 
     private static String twelve() {
